@@ -47,7 +47,6 @@ public final class FileBoxes {
     private final Scan scanner;
     private final Writer writer;
     private Plan plan;
-    private Plan spare;
     private boolean scanned;
     private int refusedAt;
 
@@ -56,7 +55,6 @@ public final class FileBoxes {
         scanner = new Scan(file);
         writer = new Writer(file);
         plan = new Plan();
-        spare = new Plan();
         scanned = false;
         refusedAt = -1;
     }
@@ -308,14 +306,11 @@ public final class FileBoxes {
     }
 
     public int scan() {
-        int refusal = scanner.readInto(spare);
+        int refusal = scanner.readFile();
         scanned = refusal == FINE;
         refusedAt = scanned ? -1 : scanner.boxAt;
         if (scanned) {
-            // The two plans change places, so that no scan makes a new one.
-            Plan read = spare;
-            spare = plan;
-            plan = read;
+            plan = scanner.exchange(plan);
         }
         return refusal;
     }
@@ -893,10 +888,17 @@ public final class FileBoxes {
 
         Scan(Bytes file) {
             this.file = file;
+            plan = new Plan();
         }
 
-        int readInto(Plan empty) {
-            plan = empty;
+        // What was read, for another plan that the next scan fills: so no scan makes a new one.
+        Plan exchange(Plan other) {
+            Plan read = plan;
+            plan = other;
+            return read;
+        }
+
+        int readFile() {
             plan.empty();
             level = IN_FILE;
             at = 0;

@@ -12,6 +12,7 @@ public final class FileTest {
         writeProfile();
         writeNumbers();
         writeRefused();
+        writeWhatWasRead();
         writeToTheEnd();
         check.end();
     }
@@ -117,8 +118,9 @@ public final class FileTest {
     }
 
     private static void dueFile(String what, FileBoxes x, byte[] file) {
-        check.due(what + ": bytes", x.at(-1), file.length);
-        for (int k = 0; k < file.length && k < x.at(-1); k++) {
+        int count = x.at(-1);
+        check.due(what + ": bytes", count, file.length);
+        for (int k = 0; k < file.length && k < count; k++) {
             check.due(what + ": byte " + k, x.at(k), file[k] & 255);
         }
     }
@@ -245,6 +247,20 @@ public final class FileTest {
         dueWriteRefused("channel 2 of two components", x);
         x.size(1, 1, 3, 7, false, false);
         check.due("write", x.write(0, false), 32 + 8 + 22 + 15 + 16 + 8);
+        x.plan();
+        x.size(1, 1, 1, 7, false, false);
+        x.colours(16);
+        check.due("lines of a former plan", x.write(0, false), 32 + 8 + 22 + 15 + 8);
+    }
+
+    /** BITS that are all the same are read, and written without BITS. */
+    private static void writeWhatWasRead() {
+        FileBoxes x = Boxes.put(Boxes.file(Boxes.head(Boxes.size(5, 6, 3, 255),
+                Boxes.box(Boxes.BITS, Boxes.bytes(7, 7, 7)), Boxes.colour(16)), Boxes.stream()));
+        check.due("scan", x.scan(), 0);
+        x.clear();
+        x.write(0, false);
+        dueFile("same bits", x, Boxes.file(Boxes.headWith(), Boxes.stream()));
     }
 
     private static void writeToTheEnd() {

@@ -317,6 +317,7 @@ public final class PlanTest {
         check.due("channel of the second", x.get(26, 1), 3);
         check.due("type of the second", x.get(27, 1), 2);
         check.isThrown("channel 3 again", Check.STATE, () -> x.channel(3, 0, 0));
+        check.isThrown("channel 15 again", Check.STATE, () -> x.channel(15, 0, 0));
         check.isThrown("channel 3 again, wrong too", Check.ARGUMENT, () -> x.channel(3, 3, 0));
         check.due("lines", x.get(10, 0), 2);
         for (int k = 0; k < 15; k++) {
@@ -419,6 +420,9 @@ public final class PlanTest {
         check.due("far beyond", x.shown(1, Integer.MAX_VALUE), -(1L << 37));
         check.due("below the first one", x.shown(1, -1), -5);
         check.due("far below", x.shown(1, Integer.MIN_VALUE), -5);
-        check.isThrown("channel 2", Check.NONE, () -> x.shown(2, 0));
+        x.entry(2, 0, 99);
+        x.map(0, 1, 0);
+        check.due("by column 0", x.shown(2, 2), 99);
+        check.isThrown("channel 3", Check.NONE, () -> x.shown(3, 0));
     }
 }

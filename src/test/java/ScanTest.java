@@ -1,3 +1,5 @@
+import java.util.List;
+
 /** Promises 21 to 23: what a scan reads, and what it refuses with which number and place. */
 public final class ScanTest {
     private static final Check check = new Check();
@@ -28,6 +30,7 @@ public final class ScanTest {
         readOthers();
         stateOfScan();
         refusedPlanStays();
+        manyScans();
         cut();
         lengthOfBox();
         wrong();
@@ -278,6 +281,27 @@ public final class ScanTest {
         check.due("the palette stays", x.number(0, 0), 4);
         check.due("no map still", x.get(9, 0), 0);
         check.due("display stays", x.get(45, 0), 6);
+    }
+
+    /** What one scan has read, refused or not, is not there in another one. */
+    private static void manyScans() {
+        byte[] all = Boxes.file(Boxes.headWith(Boxes.palette(1, 1, 7, 99), Boxes.box(Boxes.MAP, Boxes.bytes(0, 0, 1, 0)),
+                Boxes.box(Boxes.CHANNELS, Boxes.u2(1, 0, 1, 2)),
+                Boxes.box(Boxes.RESOLUTION, Boxes.box(Boxes.CAPTURE, Boxes.u2(1, 2, 3, 4, 0)))), STREAM);
+        FileBoxes x = scanned(all);
+        List<Long> plan = ModelTest.planOf(x);
+        check.due("again", x.scan(), 0);
+        check.due("the same plan", ModelTest.planOf(x).equals(plan) ? 1 : 0, 1);
+        x.spoil(all.length - STREAM.length + 7, 0);
+        check.due("refused behind HEAD", x.scan(), MISSING);
+        check.due("the plan stays", ModelTest.planOf(x).equals(plan) ? 1 : 0, 1);
+        x.clear();
+        Boxes.putInto(x, Boxes.file(HEAD, STREAM));
+        List<Long> plain = ModelTest.planOf(scanned(Boxes.file(HEAD, STREAM)));
+        for (int k = 0; k < 2; k++) {
+            check.due("plain", x.scan(), 0);
+            check.due("the plain plan", ModelTest.planOf(x).equals(plain) ? 1 : 0, 1);
+        }
     }
 
     private static void cut() {
