@@ -13,6 +13,7 @@ final class Check {
 
     private int wrong = 0;
     private int right = 0;
+    private int sentences = 0;
 
     void due(String what, long got, long want) {
         if (got == want) {
@@ -38,8 +39,33 @@ final class Check {
         }
     }
 
+    void isTrue(String what, boolean so) {
+        due(what, so ? 1 : 0, 1);
+    }
+
+    /** A test by itself, named by the promise and the document's own words that it tests. */
+    void sentence(String promise, String words, Call test) {
+        int wrongBefore = wrong;
+        int rightBefore = right;
+        sentences++;
+        try {
+            test.run();
+        } catch (RuntimeException e) {
+            wrong++;
+            System.out.println("threw " + e);
+        }
+        if (right + wrong == rightBefore + wrongBefore) {
+            wrong++;
+            System.out.println("nothing was checked");
+        }
+        if (wrong > wrongBefore) {
+            System.out.println("NOT KEPT: " + promise + ": " + words);
+        }
+    }
+
     void end() {
-        System.out.println(right + " checks right, " + wrong + " wrong");
+        String by = sentences == 0 ? "" : sentences + " sentences, ";
+        System.out.println(by + right + " checks right, " + wrong + " wrong");
         if (wrong > 0 || right == 0) {
             System.exit(1);
         }
