@@ -1,3 +1,5 @@
+import java.util.Arrays;
+
 /** Promises 16 to 20: for each sentence that names a boundary case a test of its own. */
 public final class FileEdgesTest {
     private static final Check check = new Check();
@@ -307,6 +309,20 @@ public final class FileEdgesTest {
         x.size(MOST, 1, 1, 0, true, false);
         x.bits(0, 165);
         dueHead(x, Boxes.head(Boxes.box(Boxes.SIZE, Boxes.u4(MOST, 1), Boxes.u2(1), Boxes.bytes(165, 7, 1, 0)), Boxes.colour(16)));
+        // Of each of two and of three, one alone is other.
+        for (int components = 2; components <= 3; components++) {
+            for (int c = 0; c < components; c++) {
+                FileBoxes y = new FileBoxes();
+                y.size(1, MOST, components, 7, false, true);
+                y.colours(16);
+                y.bits(c, 6);
+                byte[] bits = new byte[components];
+                Arrays.fill(bits, (byte) 7);
+                bits[c] = 6;
+                byte[] size = Boxes.box(Boxes.SIZE, Boxes.u4(1, MOST), Boxes.u2(components), Boxes.bytes(255, 7, 0, 1));
+                dueHead(y, Boxes.head(size, Boxes.box(Boxes.BITS, bits), Boxes.colour(16)));
+            }
+        }
     }
 
     private static void writeColour() {
@@ -582,6 +598,10 @@ public final class FileEdgesTest {
         check.due("whatever components there are", x.write(0, false), PLAIN_LENGTH + 22 + 13 + 24);
         x.palette(0, 1);
         dueWriteThrows(x, Check.STATE);
+        x.plan();
+        x.size(5, 6, 1, 7, false, false);
+        x.colours(16);
+        check.due("lines of a former plan", x.write(0, false), PLAIN_LENGTH);
     }
 
     private static void writeIntoFull() {

@@ -346,12 +346,15 @@ public final class ScanEdgesTest {
         dueKind("no names", LENGTH, name, name);
         dueKind("it is the only one", 0, 1, 2, name);
         dueKind("the first of two", 0, 1, 2, name, 3);
+        dueKind("the second of two", 0, 1, 2, 3, name);
+        dueKind("the third of three", 0, 1, 2, 3, 4, name);
         dueKind("the last of many", 0, 1, 2, 3, 4, 5, 6, 7, name);
         dueKind("not among names", VALUE, name, 0, 1);
         dueKind("nor as version", VALUE, 0, name, 1, 2);
         dueKind("by halves", VALUE, 0, 0, 0x00006A70, 0x32200000);
         dueKind("half of it in the version", VALUE, 0, 0x6A70, 0x32200000);
         dueKind("almost", VALUE, 0, 0, name + 1, name - 1, 0);
+        due("behind it", Boxes.join(Boxes.sign(), Boxes.box(Boxes.KIND, Boxes.u4(0, 0, 1)), Boxes.u4(name, 0)), VALUE, 12);
     }
 
     private static void seven() {
@@ -394,6 +397,8 @@ public final class ScanEdgesTest {
                 due("bits " + b, file, VALUE, SECOND_AT);
             }
         }
+        due("none of what is behind it", Boxes.file(Boxes.head(Boxes.size(5, 6, 2, 255),
+                Boxes.box(Boxes.BITS, Boxes.bytes(7, 7)), Boxes.boxOfLength(99L << 24, 0)), STREAM), CUT, SECOND_AT + 10);
         for (int components : new int[] {1, 16}) {
             byte[] bits = new byte[components];
             bits[components - 1] = (byte) 165;
@@ -788,6 +793,11 @@ public final class ScanEdgesTest {
     private static void beyond() {
         byte[] content = Boxes.u4(0x0D0A870A);
         due("SIGN", Boxes.boxOfLength(13, Boxes.SIGN, content), CUT, 0);
+        for (int k = 0; k < 3; k++) {
+            byte[] file = Boxes.file(HEAD, STREAM);
+            file[k] = 1;
+            due("SIGN by byte " + k, file, CUT, 0);
+        }
         due("KIND", Boxes.join(Boxes.sign(), Boxes.boxOfLength(21, Boxes.KIND, Boxes.u4(0, 0, 0x6A703220))), CUT, 12);
         for (long length : new long[] {9, 1L << 16, 1L << 31, (1L << 31) + 8, 0xFFFFFFFFL}) {
             byte[] box = Boxes.boxOfLength(length, 0);
