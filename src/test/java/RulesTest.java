@@ -8,17 +8,36 @@ import java.nio.file.Path;
 import java.util.HashSet;
 import java.util.List;
 import java.util.Set;
+import java.util.StringJoiner;
 import java.util.TreeSet;
 
 /** The document's face, and rules of LANGUAGE.md that can be seen in the class or its text. */
 public final class RulesTest {
     private static final Check check = new Check();
+    /** The document's face; exceptions stand in its order. */
     private static final String[] FACE = {
-        "void plan()", "void size(int,int,int,int,boolean,boolean)", "void bits(int,int)", "void colours(int)",
-        "int profile(int)", "void palette(int,int)", "void column(int,int)", "void entry(int,int,long)",
-        "int map(int,int,int)", "int channel(int,int,int)", "void resolution(boolean,int,int,int,int,int,int)",
-        "int get(int,int)", "long number(int,int)", "long shown(int,int)", "void clear()", "int put(int)",
-        "int at(int)", "void spoil(int,int)", "int write(int,boolean)", "int scan()", "int place()", "int stream(int)"};
+        "void plan()",
+        "void size(int, int, int, int, boolean, boolean) throws IllegalArgumentException",
+        "void bits(int, int) throws NoSuchElementException, IllegalArgumentException",
+        "void colours(int) throws IllegalArgumentException",
+        "int profile(int) throws IllegalStateException, IllegalArgumentException, UnsupportedOperationException",
+        "void palette(int, int) throws IllegalArgumentException",
+        "void column(int, int) throws NoSuchElementException, IllegalArgumentException",
+        "void entry(int, int, long) throws NoSuchElementException, IllegalArgumentException",
+        "int map(int, int, int) throws IllegalStateException, IllegalArgumentException",
+        "int channel(int, int, int) throws IllegalArgumentException, IllegalStateException",
+        "void resolution(boolean, int, int, int, int, int, int) throws IllegalArgumentException",
+        "int get(int, int) throws NoSuchElementException",
+        "long number(int, int) throws NoSuchElementException",
+        "long shown(int, int) throws NoSuchElementException",
+        "void clear()",
+        "int put(int) throws IllegalArgumentException, UnsupportedOperationException",
+        "int at(int) throws NoSuchElementException",
+        "void spoil(int, int) throws NoSuchElementException",
+        "int write(int, boolean) throws IllegalArgumentException, IllegalStateException, UnsupportedOperationException",
+        "int scan()",
+        "int place()",
+        "int stream(int) throws IllegalStateException, NoSuchElementException"};
     private static final String[] NOT_IN_TEXT = {"->", "::", "try {", "catch", "finally", "synchronized", "assert ",
         "static {", "Exact(", "System.", "Object", "@Override", "double", "float", "package "};
 
@@ -34,11 +53,15 @@ public final class RulesTest {
     }
 
     private static String told(Method m) {
-        StringBuilder all = new StringBuilder(m.getReturnType() + " " + m.getName() + "(");
+        StringJoiner types = new StringJoiner(", ", "(", ")");
         for (Class<?> p : m.getParameterTypes()) {
-            all.append(all.charAt(all.length() - 1) == '(' ? "" : ",").append(p);
+            types.add(p.getSimpleName());
         }
-        return all.append(")").toString();
+        StringJoiner thrown = new StringJoiner(", ", " throws ", "").setEmptyValue("");
+        for (Class<?> e : m.getExceptionTypes()) {
+            thrown.add(e.getSimpleName());
+        }
+        return m.getReturnType() + " " + m.getName() + types + thrown;
     }
 
     private static void face() {
@@ -51,7 +74,7 @@ public final class RulesTest {
                 publicNames.add(m.getName());
             }
         }
-        isTrue("the face is " + got, got.equals(due));
+        isTrue("the face is " + got + ", due is " + due, got.equals(due));
         for (Method m : FileBoxes.class.getDeclaredMethods()) {
             int how = m.getModifiers();
             isTrue(m + " is public or private", Modifier.isPublic(how) || Modifier.isPrivate(how));
